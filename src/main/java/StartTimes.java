@@ -351,7 +351,8 @@ public final class StartTimes {
     }
 
     private int shareOf(Zone z, int minute) {
-        return Math.min(z.power, machinePower - given[minute]);
+        int left = machinePower - given[minute];
+        return z.power < left ? z.power : left;
     }
 
     // ---- how quarters are weighed

@@ -10,6 +10,7 @@ public final class LessonTest {
         dayInBounds();
         lowestTerms();
         millionths();
+        largestMillionths();
         justTenToTheNinth();
         eachZoneItsOwn();
         taught();
@@ -145,6 +146,23 @@ public final class LessonTest {
         lesson(z, 1, 97L * 97 * 97 * 97);
         z.day(0, 0);
         lesson(z, 0, 1);
+    }
+
+    /** Here above times a million is more than a long holds. */
+    private static void largestMillionths() {
+        int[] days = {1439, 1440, 1438, 1440};
+        for (int sign = -1; sign <= 1; sign += 2) {
+            StartTimes x = oneZone();
+            x.fade(1, 1);
+            x.day(0, sign * 1440);
+            x.fade(1, 97);
+            for (int minutes : days) {
+                x.day(0, sign * minutes);
+            }
+            lesson(x, sign * 127479473376L, 88529281);
+            x.day(0, sign * 1439);
+            lesson(x, sign * 359989901L, 250000);
+        }
     }
 
     private static void justTenToTheNinth() {

@@ -123,7 +123,7 @@ public final class PriceTest {
         // one quarter of ten minutes from 115 to 124, five in hour 1 and five in hour 2
         check.due("a quarter in two hours", x.costs(0, 1, 10, 1), 10 * (5 * 11 + 5 * 13));
         check.due("one minute", x.costs(0, 1, 1, 1), 10 * 13);
-        check.due("no power in the others", x.costs(0, 10, 1, 1 + 512), 10 * (11 + 13) );
+        check.due("no power in the others", x.costs(0, 10, 1, 1 + 512), 10 * (11 + 13));
         x.set(0, 1, 0);
         check.due("no power costs nothing", x.costs(0, 1, 10, 1), 0);
         x.want(0, 125, 1);
