@@ -422,7 +422,7 @@ public final class StartTimes {
         private long above = 0;
         private long below = 1;
 
-        /** The products stay under 10^15: above is under 1440 * 10^9, a fade's parts up to 100. */
+        /** The products stay under 10^15: above is 1440 * 10^9 at most, a fade's parts are 100. */
         private void learn(int minutes, int fadeAbove, int fadeBelow) {
             long old = above * (fadeBelow - fadeAbove);
             long taught = minutes * below * fadeAbove;
