@@ -1,18 +1,24 @@
 /** Counts the calls of one test whose answer is not the one that is due. */
 final class Check {
-    /** A call that is expected to throw. */
+    /** A call that is expected to throw, or not to. */
     interface Call {
         void make();
     }
 
     private int made = 0;
     private int wrong = 0;
+    private String sentence = "";
+
+    /** What follows holds this sentence of the document; a wrong answer is told with it. */
+    void sentence(String text) {
+        sentence = "'" + text + "': ";
+    }
 
     void due(String call, long got, long want) {
         made++;
         if (got != want) {
             wrong++;
-            System.out.println(call + " answered " + got + ", due is " + want);
+            System.out.println(sentence + call + " answered " + got + ", due is " + want);
         }
     }
 
@@ -24,8 +30,12 @@ final class Check {
         made++;
         if (!got.equals(want)) {
             wrong++;
-            System.out.println(what + " is " + got + ", due is " + want);
+            System.out.println(sentence + what + " is " + got + ", due is " + want);
         }
+    }
+
+    void taken(String call, Call c) {
+        dueText(call, thrownBy(c), "nothing thrown");
     }
 
     void refused(String call, Call c) {
@@ -37,7 +47,7 @@ final class Check {
     }
 
     /** The name of what a call throws; anything but the two of the document is a fault as well. */
-    private static String thrownBy(Call c) {
+    static String thrownBy(Call c) {
         try {
             c.make();
         } catch (RuntimeException e) {
