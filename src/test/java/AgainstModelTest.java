@@ -1,13 +1,16 @@
 import java.util.Random;
 
 /**
- * All promises at once: long runs of calls by lot (from fixed seeds), with numbers in and out of
- * their bounds, each answer held against that of the plain model. After each run every answer
- * that can be had is asked for, so that a refused call that changed something would be seen.
+ * All promises at once: runs of 512 calls, as many as an object is promised for, by lot (from fixed
+ * seeds), with numbers in and out of their bounds, each answer held against that of the plain model.
+ * The last calls of a run ask for all that has been told and for the plan, so that a refused call
+ * that changed something would be seen.
  */
 public final class AgainstModelTest {
     private static final int RUNS = 60;
-    private static final int CALLS = 400;
+    private static final int CALLS = 512;
+    /** So many calls askEverything makes. */
+    private static final int QUESTIONS = 172;
     private static final String ARGUMENT = "IllegalArgumentException";
     private static final String STATE = "IllegalStateException";
 
@@ -17,6 +20,7 @@ public final class AgainstModelTest {
     private final StartTimes x = new StartTimes();
     private final PlainModel model = new PlainModel();
     private final int run;
+    private int made = 0;
 
     private AgainstModelTest(int run) {
         this.run = run;
@@ -26,10 +30,11 @@ public final class AgainstModelTest {
     public static void main(String[] args) {
         for (int run = 0; run < RUNS; run++) {
             AgainstModelTest t = new AgainstModelTest(run);
-            for (int i = 0; i < CALLS; i++) {
+            for (int i = 0; i < CALLS - QUESTIONS; i++) {
                 t.anyCall();
             }
             t.askEverything();
+            check.due("calls of run " + run, t.made, CALLS);
         }
         check.end();
     }
@@ -62,6 +67,7 @@ public final class AgainstModelTest {
 
     private void hold(String call, StartTimesCall c, String due) {
         String got;
+        made++;
         try {
             got = Long.toString(c.answer());
         } catch (RuntimeException e) {
@@ -107,13 +113,15 @@ public final class AgainstModelTest {
             lesson(zone, 0);
             lesson(zone, 1);
             cheapest(zone, 10, 30);
-            for (int minute = 0; minute <= 1440; minute += 7) {
-                at(zone, minute);
-            }
             at(zone, 1440);
         }
-        for (int minute = 0; minute < 1440; minute++) {
-            used(minute);
+        for (int zone = 0; zone < 6; zone++) {
+            for (int i = 0; i < 6; i++) {
+                at(zone, lot.nextInt(1441));
+            }
+        }
+        for (int i = 0; i < 29; i++) {
+            used(lot.nextInt(1440));
         }
         for (int hour = 0; hour < 24; hour++) {
             price(hour, 0);
